@@ -207,7 +207,9 @@ public final class LoanDesk {
 
         /** The day number if all months had 30 days. */
         static int thirties(int day) {
-            return 30 * monthOf(day) + Math.min(numberInMonth(day), 30);
+            int month = monthOf(day);
+            int number = day - firstDayOf(month) + 1;
+            return 30 * month + Math.min(number, 30);
         }
 
         /** How many of the days before this one are in years of 366 days. */
@@ -233,7 +235,7 @@ public final class LoanDesk {
         static int bottom(int rule) {
             switch (rule) {
                 case 0:
-                    return 365;
+                    return Days.SHORT_YEAR;
                 case 3:
                     return Days.SHORT_YEAR * Days.LONG_YEAR;
                 default:
@@ -304,14 +306,6 @@ public final class LoanDesk {
             int first = Days.firstDayOf(monthOpened + k);
             int last = Days.firstDayOf(monthOpened + k + 1) - 1;
             return Math.min(first + numberInMonth - 1, last);
-        }
-
-        int spanTop(int from, int to) {
-            return Span.top(rule, from, to);
-        }
-
-        int interestOn(int amount, int spanTop) {
-            return Cents.interestOn(amount, rate, spanTop, rule, rounding);
         }
     }
 
@@ -392,7 +386,8 @@ public final class LoanDesk {
         }
 
         int accruedBy(int today) {
-            return accrued + terms.interestOn(principal, terms.spanTop(accruedUpTo, today));
+            int spanTop = Span.top(terms.rule, accruedUpTo, today);
+            return accrued + Cents.interestOn(principal, terms.rate, spanTop, terms.rule, terms.rounding);
         }
 
         private void accrue(int today) {
@@ -405,15 +400,9 @@ public final class LoanDesk {
             if (billBook.latestIsOf(today - DAYS_OF_GRACE)) {
                 addLateFee();
             }
-            return today == nextDueDay && meetDueDay(today);
-        }
-
-        private void addLateFee() {
-            long late = (long) owed[INTEREST] + owed[PRINCIPAL] + owed[ESCROW];
-            owed[FEES] += Cents.rounded(late, FEE_PART, terms.rounding);
-        }
-
-        private boolean meetDueDay(int today) {
+            if (today != nextDueDay) {
+                return false;
+            }
             dueDaysPassed++;
             nextDueDay = terms.dueDay(dueDaysPassed + 1);
             if (dueDaysPassed % 12 == 0) {
@@ -425,6 +414,11 @@ public final class LoanDesk {
             }
             makeBill(today);
             return true;
+        }
+
+        private void addLateFee() {
+            long late = (long) owed[INTEREST] + owed[PRINCIPAL] + owed[ESCROW];
+            owed[FEES] += Cents.rounded(late, FEE_PART, terms.rounding);
         }
 
         private void makeBill(int today) {
@@ -493,7 +487,7 @@ public final class LoanDesk {
             int from = today;
             for (int k = dueDaysPassed + 1; k <= terms.months && count < spanTops.length; k++) {
                 int to = terms.dueDay(k);
-                spanTops[count] = terms.spanTop(from, to);
+                spanTops[count] = Span.top(terms.rule, from, to);
                 count++;
                 from = to;
             }
@@ -503,7 +497,7 @@ public final class LoanDesk {
         /** What is left never grows with the level, so the least level can be found by halving. */
         private int leastLevel(int amount, int count) {
             int tooLow = 0;
-            int enough = amount + terms.interestOn(amount, spanTops[0]);
+            int enough = amount + Cents.interestOn(amount, terms.rate, spanTops[0], terms.rule, terms.rounding);
             for (int step = 0; step < HALVINGS && enough - tooLow > 1; step++) {
                 int middle = tooLow + (enough - tooLow) / 2;
                 if (leftInTheEnd(amount, middle, count) > 0) {
@@ -518,7 +512,7 @@ public final class LoanDesk {
         private int leftInTheEnd(int amount, int tried, int count) {
             int left = amount;
             for (int i = 0; i < count && i < spanTops.length; i++) {
-                int repaid = tried - terms.interestOn(left, spanTops[i]);
+                int repaid = tried - Cents.interestOn(left, terms.rate, spanTops[i], terms.rule, terms.rounding);
                 if (repaid > 0) {
                     left -= Math.min(repaid, left);
                 }

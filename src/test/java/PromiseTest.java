@@ -208,6 +208,11 @@ public final class PromiseTest {
         due("level after no prepayment", y.level(0), 34);
         y.pay(0, 1);
         due("level after a prepayment", y.level(0), 33);
+        LoanDesk whole = plain(100, 3, false);
+        whole.advance(31);
+        due("pay what is due and all the rest", whole.pay(0, 150), 50);
+        parts("pay what is due and all the rest", whole, 0, 0, 34, 0, 66, 50);
+        due("principal paid off", whole.principal(0), 0);
         LoanDesk z = plain(100, 3, true);
         z.pay(0, 50);
         due("steady level", z.level(0), 34);
@@ -308,6 +313,10 @@ public final class PromiseTest {
         x.advance(3);
         due("three days more", x.accrued(0), 3);
         due("what is due stays", x.owed(0, 1), 31);
+        x.open(36500, 1000, 36, 0, 0, true);
+        due("nothing on the day of opening", x.accrued(2), 0);
+        x.advance(5);
+        due("five days from the opening on", x.accrued(2), 5);
     }
 
     private static void readersRefuse() {
