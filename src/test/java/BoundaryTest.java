@@ -323,9 +323,9 @@ public final class BoundaryTest {
             due("level of one day", y.level(0), 36501);
         });
         testCase("The spans behind the first are from the due day before", () -> {
-            // 31 days and 29 days; all but one cent of the first interest stays.
-            LoanDesk x = centADay(2, 0, true);
-            due("level", x.level(0), 18273);
+            // 31 days bear 31 cents, which leaves 18258; on these 29 days bear 14 cents.
+            // With 18272 there would be 18259 left, and one cent of them in the end.
+            due("level", centADay(2, 0, true).level(0), 18273);
         });
         testCase("The level is 0 when the amount is 0", () -> {
             LoanDesk x = plain(1200, 12, 0, false);
